@@ -1,0 +1,45 @@
+/** Promise 8. */
+public final class HashTest {
+    public static void main(String[] args) {
+        Checks.due("empty", new EdgeFinder().hash(1), 1);
+        EdgeFinder x = Checks.row(0, "| Other x Extend | Other |");
+        Checks.due("0, 2, 3", x.hash(0), (31 * 31 + 2) * 31 + 3);
+        Checks.due("0, 1, 2, 3", x.hash(1), ((31 * 31 + 1) * 31 + 2) * 31 + 3);
+        followsChanges(x);
+        wraps();
+        wrongNumbers();
+        Checks.end();
+    }
+
+    private static void followsChanges(EdgeFinder x) {
+        x.set(2, 4, 4, false);
+        Checks.due("0, 3", x.hash(0), 31 * 31 + 3);
+        Checks.due("words 0, 1, 3", x.hash(1), (31 * 31 + 1) * 31 + 3);
+        x.add(0, 0, false);
+        Checks.due("0, 3, 4", x.hash(0), (31 * 31 + 3) * 31 + 4);
+        x.cut(1);
+        Checks.due("0, 1", x.hash(0), 31 * 31 + 1);
+    }
+
+    /** From the seventh boundary on the number is too long for 32 bits. */
+    private static void wraps() {
+        EdgeFinder x = new EdgeFinder();
+        long h = 31;
+        for (int k = 1; k <= 60; k++) {
+            x.add(0, 0, false);
+            h = (31 * h + k) & 0xffffffffL;
+            Checks.due("hash of " + k, x.hash(0), (int) h);
+            Checks.due("hash of " + k + " words", x.hash(1), (int) h);
+        }
+    }
+
+    private static void wrongNumbers() {
+        EdgeFinder x = Checks.row(0, "| Other x Extend | Other |");
+        for (int far : Checks.FAR_OUT) {
+            Checks.dueRefused("hash(" + far + ")", x, () -> x.hash(far));
+        }
+        for (int far : new int[] {2, 3, 1000, Integer.MAX_VALUE}) {
+            Checks.dueRefused("hash(" + far + ")", x, () -> x.hash(far));
+        }
+    }
+}

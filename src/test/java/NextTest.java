@@ -1,0 +1,46 @@
+/** Promise 6. */
+public final class NextTest {
+    public static void main(String[] args) {
+        EdgeFinder x = Checks.row(0, "| Other x Extend x Extend | CR x LF | Other |");
+        answers(x, false, 3, 3, 3, 5, 5, 6, -1);
+        answers(x, true, -1, 0, 0, 0, 3, 3, 5);
+        Checks.due("words, on", x.next(1, 0, false), 1);
+        Checks.due("words, back", x.next(1, 6, true), 5);
+        followsChanges();
+        wrongNumbers();
+        Checks.end();
+    }
+
+    private static void answers(EdgeFinder x, boolean back, int... wants) {
+        for (int i = 0; i < wants.length; i++) {
+            Checks.due("next(0, " + i + ", " + back + ")", x.next(0, i, back), wants[i]);
+        }
+    }
+
+    private static void followsChanges() {
+        EdgeFinder x = Checks.row(1, "| ALetter x ALetter x ALetter |");
+        Checks.due("to the end", x.next(1, 0, false), 3);
+        x.set(1, 0, 0, false);
+        Checks.due("after set", x.next(1, 0, false), 1);
+        Checks.due("after set, back", x.next(1, 3, true), 2);
+        x.cut(2);
+        Checks.due("after cut", x.next(1, 1, false), 2);
+        Checks.due("behind the end", x.next(1, 2, false), -1);
+        x.add(0, 4, false);
+        Checks.due("after add", x.next(1, 1, false), 3);
+    }
+
+    private static void wrongNumbers() {
+        EdgeFinder x = Checks.row(0, "| Other x Extend | Other |");
+        for (boolean back : new boolean[] {false, true}) {
+            for (int far : Checks.FAR_OUT) {
+                Checks.dueRefused("next(" + far + ", 0)", x, () -> x.next(far, 0, back));
+                Checks.dueRefused("next(0, " + far + ")", x, () -> x.next(0, far, back));
+            }
+            Checks.dueRefused("next(2, 0)", x, () -> x.next(2, 0, back));
+            Checks.dueRefused("next(MAX, 0)", x, () -> x.next(Integer.MAX_VALUE, 0, back));
+            Checks.dueRefused("next(0, 4)", x, () -> x.next(0, 4, back));
+            Checks.dueRefused("next(1, MAX)", x, () -> x.next(1, Integer.MAX_VALUE, back));
+        }
+    }
+}
