@@ -2,6 +2,8 @@
 public final class AddTest {
     public static void main(String[] args) {
         everyClassIsTaken();
+        firstAndLastOfEachRange();
+        addAfterCut();
         addedPlacesCount();
         lastBoundaryMoves();
         wrongNumbers();
@@ -18,6 +20,33 @@ public final class AddTest {
                 Checks.due("add(" + g + ", " + w + ")", x.add(g, w, count % 3 == 0), count);
             }
         }
+    }
+
+    private static void firstAndLastOfEachRange() {
+        EdgeFinder x = new EdgeFinder();
+        Checks.dueRefused("add(-1, 0)", x, () -> x.add(-1, 0, false));
+        Checks.due("add(0, 0)", x.add(0, 0, false), 1);
+        Checks.due("add(13, 0)", x.add(13, 0, false), 2);
+        Checks.dueRefused("add(14, 0)", x, () -> x.add(14, 0, false));
+        Checks.dueRefused("add(0, -1)", x, () -> x.add(0, -1, true));
+        Checks.due("add(0, 18)", x.add(0, 18, true), 3);
+        Checks.dueRefused("add(0, 19)", x, () -> x.add(0, 19, true));
+        // The ranges are two: what is good for words is too large for graphemes.
+        Checks.dueRefused("add(18, 13)", x, () -> x.add(18, 13, true));
+        Checks.due("add(13, 18)", x.add(13, 18, true), 4);
+    }
+
+    /** Nothing of a place that was cut is left in the one that comes in its stead. */
+    private static void addAfterCut() {
+        EdgeFinder x = Checks.row(0, "| Other+P x ZWJ x Other+P |");
+        x.cut(2);
+        Checks.due("add", x.add(0, 0, false), 3);
+        Checks.due("the picture is gone", x.edge(0, 2), true);
+        x.cut(0);
+        Checks.due("add to none", x.add(0, 0, false), 1);
+        x.add(5, 5, false);
+        x.add(0, 0, true);
+        Checks.due("the first picture is gone", x.edge(0, 2), true);
     }
 
     private static void addedPlacesCount() {

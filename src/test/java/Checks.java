@@ -4,10 +4,10 @@ final class Checks {
     static final int WORDS = 1;
     static final int[] FAR_OUT = {Integer.MIN_VALUE, Integer.MIN_VALUE + 1, -1000, -2, -1};
 
-    private static final String[] GRAPHEME_NAMES = {
+    static final String[] GRAPHEME_NAMES = {
         "Other", "CR", "LF", "Control", "Extend", "ZWJ", "RI", "Prepend", "SpacingMark",
         "L", "V", "T", "LV", "LVT"};
-    private static final String[] WORD_NAMES = {
+    static final String[] WORD_NAMES = {
         "Other", "CR", "LF", "Newline", "Extend", "ZWJ", "RI", "Format", "Katakana", "Hebrew", "ALetter",
         "MidLetter", "MidNum", "MidNumLet", "Single", "Double", "Numeric", "ExtendNumLet", "WSegSpace"};
 
@@ -55,13 +55,30 @@ final class Checks {
             + ", cut answers " + x.cut(size);
     }
 
-    /** No call tells the size without a change, but the last boundary is always behind the last place. */
+    /**
+     * No call tells the size without a change, but the last boundary is always behind the last place.
+     * The loop goes upwards alone, so that it ends for a wrong program too.
+     */
     static int sizeOf(EdgeFinder x) {
         int size = 0;
-        for (int at = x.next(GRAPHEMES, 0, false); at != -1; at = x.next(GRAPHEMES, at, false)) {
+        for (int at = x.next(GRAPHEMES, 0, false); at > size; at = x.next(GRAPHEMES, at, false)) {
             size = at;
         }
         return size;
+    }
+
+    /** A call of set in the form of a call that answers. */
+    static Object set(EdgeFinder x, int i, int g, int w, boolean picture) {
+        x.set(i, g, w, picture);
+        return "nothing";
+    }
+
+    static EdgeFinder others(int count) {
+        EdgeFinder x = new EdgeFinder();
+        for (int k = 0; k < count; k++) {
+            x.add(0, 0, false);
+        }
+        return x;
     }
 
     /**
@@ -90,16 +107,25 @@ final class Checks {
         throw new AssertionError("no class " + name);
     }
 
-    /** Makes the note's row and holds every answer of edge against the note's marks. */
+    /**
+     * Makes the note's row and holds every answer of edge against the note's marks; then once more behind a
+     * cut that cuts nothing, since a row that has changed is not read with what was left of the first time.
+     */
     static void dueMarks(int kind, String note) {
         EdgeFinder x = row(kind, note);
         String[] parts = note.trim().split("\\s+");
+        due("kind " + kind, marks(kind, x, parts), String.join(" ", parts));
+        x.cut(parts.length / 2);
+        due("kind " + kind + ", asked again", marks(kind, x, parts), String.join(" ", parts));
+    }
+
+    private static String marks(int kind, EdgeFinder x, String[] parts) {
         StringBuilder got = new StringBuilder();
         for (int k = 0; k < parts.length; k++) {
             String mark = k % 2 == 1 ? parts[k] : x.edge(kind, k / 2) ? "|" : "x";
             got.append(k == 0 ? "" : " ").append(mark);
         }
-        due("kind " + kind, got, String.join(" ", parts));
+        return got.toString();
     }
 
     static void end() {

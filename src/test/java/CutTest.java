@@ -4,6 +4,8 @@ public final class CutTest {
         answersWhatWasThere();
         keepsTheFirst();
         whatIsCutIsGone();
+        fromNoneToAll();
+        emptyRow();
         wrongNumbers();
         Checks.end();
     }
@@ -42,6 +44,27 @@ public final class CutTest {
         y.add(6, 0, false);
         y.add(6, 0, false);
         Checks.due("indicators are counted anew", y.hash(0), 31 * 31 + 2);
+    }
+
+    private static void fromNoneToAll() {
+        EdgeFinder x = Checks.row(0, "| Other+P x ZWJ x Other+P | CR x LF |");
+        String before = Checks.state(x);
+        Checks.due("cut to all", x.cut(5), 5);
+        Checks.due("the row after a cut to all", Checks.state(x), before);
+        Checks.dueRefused("cut to one more than all", x, () -> x.cut(6));
+        Checks.dueRefused("cut to one less than none", x, () -> x.cut(-1));
+        Checks.due("cut by one", x.cut(4), 5);
+        Checks.dueRefused("cut to what was all", x, () -> x.cut(5));
+        Checks.due("cut to none", x.cut(0), 4);
+        Checks.due("none are left", x.cut(0), 0);
+    }
+
+    private static void emptyRow() {
+        EdgeFinder x = new EdgeFinder();
+        Checks.due("cut(0)", x.cut(0), 0);
+        Checks.dueRefused("cut(1)", x, () -> x.cut(1));
+        Checks.dueRefused("cut(-1)", x, () -> x.cut(-1));
+        Checks.due("the first add", x.add(0, 0, false), 1);
     }
 
     private static void wrongNumbers() {

@@ -12,6 +12,9 @@ public final class EdgeTest {
         wordRuns();
         wordIndicators();
         kindsAreApart();
+        fromTheFirstToBehindTheLast();
+        kindIs0Or1();
+        emptyRow();
         wrongNumbers();
         Checks.end();
     }
@@ -177,6 +180,41 @@ public final class EdgeTest {
         Checks.due("graphemes at 2", x.edge(0, 2), true);
         Checks.due("words at 1", x.edge(1, 1), true);
         Checks.due("words at 2", x.edge(1, 2), false);
+    }
+
+    private static void fromTheFirstToBehindTheLast() {
+        EdgeFinder x = Checks.row(0, "| Other x Extend x Extend |");
+        for (int kind = 0; kind <= 1; kind++) {
+            int asked = kind;
+            Checks.dueRefused("edge(-1)", x, () -> x.edge(asked, -1));
+            Checks.due("before the first", x.edge(kind, 0), true);
+            Checks.due("before the last", x.edge(kind, 2), kind == 1);
+            Checks.due("behind the last", x.edge(kind, 3), true);
+            Checks.dueRefused("edge(4)", x, () -> x.edge(asked, 4));
+        }
+        x.cut(2);
+        Checks.due("behind the last that is left", x.edge(0, 2), true);
+        Checks.dueRefused("behind what was cut", x, () -> x.edge(0, 3));
+        x.add(4, 0, false);
+        Checks.due("no longer behind the last", x.edge(0, 2), false);
+    }
+
+    private static void kindIs0Or1() {
+        EdgeFinder x = Checks.row(0, "| Other x Extend |");
+        Checks.dueRefused("kind -1", x, () -> x.edge(-1, 1));
+        Checks.due("kind 0", x.edge(0, 1), false);
+        Checks.due("kind 1", x.edge(1, 1), true);
+        Checks.dueRefused("kind 2", x, () -> x.edge(2, 1));
+    }
+
+    private static void emptyRow() {
+        EdgeFinder x = new EdgeFinder();
+        for (int kind = 0; kind <= 1; kind++) {
+            int asked = kind;
+            Checks.due("edge(0)", x.edge(kind, 0), false);
+            Checks.dueRefused("edge(1)", x, () -> x.edge(asked, 1));
+            Checks.dueRefused("edge(-1)", x, () -> x.edge(asked, -1));
+        }
     }
 
     private static void wrongNumbers() {

@@ -31,7 +31,7 @@ public final class NewObjectTest {
 
     private static void emptyHasNoPlace() {
         EdgeFinder x = new EdgeFinder();
-        Checks.dueRefused("set(0)", x, () -> { x.set(0, 0, 0, false); return "nothing"; });
+        Checks.dueRefused("set(0)", x, () -> Checks.set(x, 0, 0, 0, false));
         Checks.dueRefused("cut(1)", x, () -> x.cut(1));
         Checks.dueRefused("edge(0, 1)", x, () -> x.edge(0, 1));
         Checks.dueRefused("next(0, 1)", x, () -> x.next(0, 1, true));

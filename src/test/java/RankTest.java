@@ -5,6 +5,9 @@ public final class RankTest {
         answers(x, 1, 1, 1, 1, 2, 2, 3, 4);
         answers(x, 0, 1, 2, 3, 4, 5, 6, 7);
         followsChanges(x);
+        thatAt0Too();
+        noneInAnEmptyRow();
+        firstAndLastOfEachRange();
         wrongNumbers();
         Checks.end();
     }
@@ -25,6 +28,34 @@ public final class RankTest {
         answers(x, 1, 0);
         x.add(4, 4, false);
         answers(x, 0, 1, 2);
+    }
+
+    private static void thatAt0Too() {
+        EdgeFinder x = Checks.row(0, "| Extend x Extend x Extend |");
+        answers(x, 0, 1, 1, 1, 2);
+        answers(x, 1, 1, 2, 3, 4);
+        EdgeFinder one = Checks.row(1, "| Extend |");
+        answers(one, 0, 1, 2);
+        answers(one, 1, 1, 2);
+    }
+
+    private static void noneInAnEmptyRow() {
+        EdgeFinder x = new EdgeFinder();
+        answers(x, 0, 0);
+        answers(x, 1, 0);
+    }
+
+    private static void firstAndLastOfEachRange() {
+        EdgeFinder x = Checks.others(2);
+        for (int kind = 0; kind <= 1; kind++) {
+            int asked = kind;
+            Checks.dueRefused("rank(-1)", x, () -> x.rank(asked, -1));
+            Checks.due("rank(0)", x.rank(kind, 0), 1);
+            Checks.due("rank(2)", x.rank(kind, 2), 3);
+            Checks.dueRefused("rank(3)", x, () -> x.rank(asked, 3));
+        }
+        Checks.dueRefused("kind -1", x, () -> x.rank(-1, 0));
+        Checks.dueRefused("kind 2", x, () -> x.rank(2, 0));
     }
 
     private static void wrongNumbers() {

@@ -5,20 +5,15 @@ public final class SetTest {
         firstAndLastPlace();
         laterPlaceDecidesEarlierBoundary();
         sizeStays();
+        firstAndLastOfEachRange();
+        noPlaceInAnEmptyRow();
+        placeComesAndGoes();
         wrongNumbers();
         Checks.end();
     }
 
-    private static EdgeFinder others(int count) {
-        EdgeFinder x = new EdgeFinder();
-        for (int k = 0; k < count; k++) {
-            x.add(0, 0, false);
-        }
-        return x;
-    }
-
     private static void allThreeAreSet() {
-        EdgeFinder x = others(3);
+        EdgeFinder x = Checks.others(3);
         x.set(1, 4, 0, false);
         Checks.due("g set", x.edge(0, 1), false);
         Checks.due("w not", x.edge(1, 1), true);
@@ -40,7 +35,7 @@ public final class SetTest {
     }
 
     private static void firstAndLastPlace() {
-        EdgeFinder x = others(4);
+        EdgeFinder x = Checks.others(4);
         x.set(0, 7, 10, false);
         x.set(3, 8, 10, false);
         Checks.due("Prepend x", x.edge(0, 1), false);
@@ -57,9 +52,44 @@ public final class SetTest {
     }
 
     private static void sizeStays() {
-        EdgeFinder x = others(5);
+        EdgeFinder x = Checks.others(5);
         x.set(2, 13, 18, true);
         Checks.due("cut", x.cut(5), 5);
+    }
+
+    private static void firstAndLastOfEachRange() {
+        EdgeFinder x = Checks.others(3);
+        for (int i : new int[] {0, 2}) {
+            x.set(i, 13, 18, true);
+            x.set(i, 0, 18, false);
+            x.set(i, 13, 0, false);
+            x.set(i, 0, 0, false);
+        }
+        refused(x, -1, 0, 0);
+        refused(x, 3, 0, 0);
+        refused(x, 2, -1, 0);
+        refused(x, 2, 14, 0);
+        refused(x, 2, 0, -1);
+        refused(x, 2, 0, 19);
+    }
+
+    private static void noPlaceInAnEmptyRow() {
+        EdgeFinder x = new EdgeFinder();
+        for (int i : new int[] {-1, 0, 1, 999}) {
+            refused(x, i, 0, 0);
+        }
+    }
+
+    private static void placeComesAndGoes() {
+        EdgeFinder x = Checks.others(1);
+        refused(x, 1, 0, 0);
+        x.add(0, 0, false);
+        x.set(1, 4, 4, false);
+        Checks.due("the new place is set", x.edge(0, 1), false);
+        x.cut(1);
+        refused(x, 1, 0, 0);
+        x.cut(0);
+        refused(x, 0, 0, 0);
     }
 
     private static void wrongNumbers() {
@@ -83,9 +113,7 @@ public final class SetTest {
     }
 
     private static void refused(EdgeFinder x, int i, int g, int w) {
-        Checks.dueRefused("set(" + i + ", " + g + ", " + w + ")", x, () -> {
-            x.set(i, g, w, true);
-            return "nothing";
-        });
+        Checks.dueRefused("set(" + i + ", " + g + ", " + w + ")", x,
+            () -> Checks.set(x, i, g, w, true));
     }
 }
