@@ -27,6 +27,7 @@ public final class LanguageTest {
         noForbiddenWord(code);
         noLambdaNorMethodReference(code);
         onlyTheDocumentsExceptions(code);
+        onlyConstructorsMakeObjects(code);
         List<Class<?>> all = new ArrayList<>(Arrays.asList(EdgeFinder.class.getDeclaredClasses()));
         nestedClassesAreHiddenAndStatic(all);
         all.add(EdgeFinder.class);
@@ -62,6 +63,14 @@ public final class LanguageTest {
         while (thrown.find()) {
             Checks.due("thrown: " + thrown.group(2), THROWN.contains(String.valueOf(thrown.group(2))), true);
         }
+    }
+
+    /** Rule 12 counts what a run makes: rows come with the object, and a call makes only what it throws. */
+    private static void onlyConstructorsMakeObjects(String code) {
+        String rest = code.replaceFirst("(?s)public EdgeFinder\\(\\) \\{.*?\\n    \\}", "")
+            .replaceAll("(?m)^        final \\w+\\[\\] \\w+ = new ", "")
+            .replace("throw new ", "");
+        Checks.due("a call makes an object", Pattern.compile("\\bnew\\b").matcher(rest).find(), false);
     }
 
     private static void nestedClassesAreHiddenAndStatic(List<Class<?>> nested) {

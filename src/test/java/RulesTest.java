@@ -3,10 +3,11 @@ import java.util.Arrays;
 import java.util.List;
 import java.util.Random;
 import java.util.regex.Pattern;
+import java.util.stream.IntStream;
 
 /**
  * Promises 5 to 8 against a second reading of the rules: the document's lines as patterns, tried in order
- * at every place, on all rows of up to three places and on many longer ones.
+ * at every place, on all rows of up to three places and on many longer ones; then all promises together.
  */
 public final class RulesTest {
     // One letter a class; a picture is the same letter raised by PICTURE.
@@ -238,6 +239,87 @@ public final class RulesTest {
         return longer;
     }
 
+    /** Whole lives of 512 calls, with classes of both kinds in one row and a wrong number now and then. */
+    private static void wholeLives(Random random) {
+        for (int round = 0; round < 100; round++) {
+            EdgeFinder x = new EdgeFinder();
+            List<int[]> row = new ArrayList<>();
+            for (int call = 0; call < 512; call++) {
+                if (random.nextBoolean()) {
+                    question(x, row, random);
+                } else {
+                    changeBoth(x, row, random);
+                }
+            }
+        }
+    }
+
+    /** A number of 0 .. last, seldom one just outside. */
+    private static int number(int last, Random random) {
+        return random.nextInt(15) == 0 ? (random.nextBoolean() ? -1 : last + 1) : random.nextInt(last + 1);
+    }
+
+    private static boolean within(int number, int last) {
+        return number >= 0 && number <= last;
+    }
+
+    private static void dueOrRefused(String what, boolean good, Checks.Call call, Object want) {
+        if (good) {
+            Checks.due(what, call.answer(), want);
+        } else {
+            Checks.dueThrow(what, IllegalArgumentException.class, call);
+        }
+    }
+
+    private static void changeBoth(EdgeFinder x, List<int[]> row, Random random) {
+        int g = number(13, random);
+        int w = number(18, random);
+        int picture = random.nextInt(2);
+        boolean good = within(g, 13) && within(w, 18);
+        int[] place = {2 * g + picture, 2 * w + picture};
+        int choice = random.nextInt(60);
+        int size = row.size();
+        if (choice == 0) {
+            int n = number(size, random);
+            dueOrRefused("cut " + n, within(n, size), () -> x.cut(n), size);
+            row.subList(within(n, size) ? n : size, size).clear();
+        } else if (choice < 30 && size > 0) {
+            int i = number(size - 1, random);
+            boolean fits = good && within(i, size - 1);
+            dueOrRefused("set " + i, fits, () -> Checks.set(x, i, g, w, picture == 1), "nothing");
+            if (fits) {
+                row.set(i, place);
+            }
+        } else {
+            dueOrRefused("add", good, () -> x.add(g, w, picture == 1), size + 1);
+            if (good) {
+                row.add(place);
+            }
+        }
+    }
+
+    private static void question(EdgeFinder x, List<int[]> row, Random random) {
+        int kind = number(1, random);
+        int i = number(row.size(), random);
+        boolean good = within(kind, 1) && within(i, row.size());
+        int read = within(kind, 1) ? kind : 0;
+        String text = text(read, row.stream().mapToInt(place -> place[read]).toArray());
+        boolean[] wants = boundaries(read, text);
+        int[] at = IntStream.range(0, wants.length).filter(k -> wants[k]).toArray();
+        String asked = "(" + kind + ", " + i + ") of " + text;
+        switch (random.nextInt(5)) {
+            case 0 -> dueOrRefused("edge" + asked, good, () -> x.edge(kind, i), good && wants[i]);
+            case 1 -> dueOrRefused("next" + asked, good, () -> x.next(kind, i, false),
+                Arrays.stream(at).filter(k -> k > i).findFirst().orElse(-1));
+            case 2 -> dueOrRefused("next back" + asked, good, () -> x.next(kind, i, true),
+                Arrays.stream(at).filter(k -> k < i).max().orElse(-1));
+            case 3 -> dueOrRefused("rank" + asked, good, () -> x.rank(kind, i),
+                Arrays.stream(at).filter(k -> k <= i).count());
+            // Java's own hash of an array is the document's: from 1 on, 31 h + element.
+            default -> dueOrRefused("hash" + asked, within(kind, 1), () -> x.hash(kind), Arrays.hashCode(at));
+        }
+    }
+
     public static void main(String[] args) {
         graphemeRules();
         wordRules();
@@ -248,6 +330,7 @@ public final class RulesTest {
             longRows(kind, codes, random);
             changes(kind, codes, random);
         }
+        wholeLives(new Random(31));
         Checks.end();
     }
 }
